@@ -446,7 +446,10 @@ public final class CacheDiary {
 
         /** Steps 2 to 5 of a miss, but for the owning and the value of a write, which a hit shares. */
         private void fetch(int cache, int line, boolean write) {
-            openPage(line);
+            if (!diary.hasPage(line)) {
+                makeRoomInDiary();
+                diary.makePage(line);
+            }
             int owner = copies.ownerOf(line);
             if (owner != NONE) {
                 bringBack(owner, line);
@@ -465,15 +468,11 @@ public final class CacheDiary {
             diary.use(line);
         }
 
-        private void openPage(int line) {
-            if (diary.hasPage(line)) {
-                return;
-            }
+        private void makeRoomInDiary() {
             int torn = diary.lineToTear();
             if (torn != NONE) {
                 diary.tearOut(torn, copies.countOf(torn) > 0);
             }
-            diary.makePage(line);
         }
 
         private void bringBack(int cache, int line) {
