@@ -852,7 +852,7 @@ public final class CacheDiary {
         }
 
         void save(Machine now) {
-            if (count == SAVED_ROOM) {
+            if (count >= SAVED_ROOM) {
                 dropOldest();
             }
             saved[count].takeOver(now);
@@ -877,9 +877,9 @@ public final class CacheDiary {
 
     /** A place in an order, with the digits and the range of the number that stands there, if one does. */
     private enum Place {
-        KIND(0, 0, 0),
-        CACHE(0, 0, 0),
-        COLON(0, 0, 0),
+        KIND,
+        CACHE,
+        COLON,
         LINE(2, 0, 31),
         VALUE(3, 0, 999),
         TICKS(2, 1, 50);
@@ -887,6 +887,10 @@ public final class CacheDiary {
         final int maxDigits;
         final int lowest;
         final int highest;
+
+        Place() {
+            this(0, 0, 0);
+        }
 
         Place(int maxDigits, int lowest, int highest) {
             this.maxDigits = maxDigits;
@@ -903,7 +907,7 @@ public final class CacheDiary {
         final int[] line = new int[MAX_ORDERS];
         final int[] number = new int[MAX_ORDERS];
         int count;
-        private Place place;
+        private Place place = Place.KIND;
         private boolean write;
         private int readCache;
         private int readLine;
